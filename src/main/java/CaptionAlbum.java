@@ -661,7 +661,7 @@ public final class CaptionAlbum {
 
         /** The set of the people in the picture. */
         int shownSet() {
-            return shownWithin(0, 0, shownWidth() - 1, shownHeight() - 1);
+            return shownWithin(0, 0, MAX_SIDE, MAX_SIDE);
         }
 
         /** The set of the people in the picture whose shown positions are in a rectangle. */
@@ -697,9 +697,10 @@ public final class CaptionAlbum {
         }
 
         void give(int person, int name) {
-            int holder = holderOf(name);
-            if (name != NONE && holder != NONE) {
-                nameOfPerson[holder] = NONE;
+            for (int holder = 0; holder < count; holder++) {
+                if (nameOfPerson[holder] == name) {
+                    nameOfPerson[holder] = NONE;
+                }
             }
             nameOfPerson[person] = name;
         }
@@ -1128,7 +1129,6 @@ public final class CaptionAlbum {
             int letters = runFromStart('a', 'z');
             int digits = runFromStart('0', '9');
             if (start >= length) {
-                end = start;
                 kind = Kind.END;
             } else if (letters > 0) {
                 takeWord(letters);

@@ -103,10 +103,13 @@ public final class ChangesTest {
         Due.is("addPerson, flipped", x.addPerson(0, 0, 60), 5);
         Due.is("shownAt(0, 5)", x.shownAt(0, 5), 60);
         Due.is("nameOf(0, 5)", x.nameOf(0, 5), -1);
+        Due.is("addPerson, flipped, x 7", x.addPerson(0, 7, 0), 6);
+        Due.is("shownAt(0, 6)", x.shownAt(0, 6), 7000);
         x.flip(0);
         x.uncrop(0);
         Due.is("shownAt(0, 5), whole", x.shownAt(0, 5), 60070);
-        Due.is("people(0)", x.people(0), 6);
+        Due.is("shownAt(0, 6), whole", x.shownAt(0, 6), 53010);
+        Due.is("people(0)", x.people(0), 7);
         Due.argument("x 50", () -> x.addPerson(1, 50, 0));
         Due.argument("y 50", () -> x.addPerson(1, 0, 50));
         Due.argument("x -1", () -> x.addPerson(1, -1, 0));

@@ -80,6 +80,7 @@ public final class InputTest {
         x.crop(0, 5, 5, 5, 5);
         x.flip(0);
         x.retouch(0, 0, true);
+        x.save(0);
         x.save(1);
         int written = x.write(0);
         Due.is("load", Due.load(x, SMALL + ";name a b;person 0 5 5"), 1);
@@ -88,7 +89,12 @@ public final class InputTest {
         Due.is("isFlipped(0)", x.isFlipped(0), false);
         Due.is("undoable()", x.undoable(), 0);
         Due.state("undo()", () -> x.undo());
+        Due.state("restore(0)", () -> x.restore(0));
         Due.state("restore(1)", () -> x.restore(1));
+        Due.load(x, SMALL);
+        Due.is("the latest names()", x.names(), 0);
+        Due.is("the latest photos()", x.photos(), 1);
+        Due.is("the latest people(0)", x.people(0), 0);
         Due.is("the text stays", x.writtenByte(written - 1), (int) 'y');
     }
 
@@ -127,6 +133,12 @@ public final class InputTest {
         Due.loadFails("", 1, 0);
         Due.loadFails("    ", 1, 4);
         Due.loadFails("gap", 1, 0);
+        Due.loadFails("blbum gap 1;photo 10 10", 1, 0);
+        Due.loadFails("album tap 1;photo 10 10", 1, 6);
+        Due.loadFails("album gap 1;ohoto 10 10", 1, 12);
+        Due.loadFails("album gap 1;photos 10 10;", 1, 12);
+        Due.loadFails(SMALL + ";same a b", 1, 24);
+        Due.loadFails(SMALL + ";parson 0 1 1", 1, 24);
         Due.loadFails("album", 1, 5);
         Due.loadFails("  albums gap 1", 1, 2);
         Due.loadFails("album gap", 1, 9);

@@ -30,6 +30,12 @@ public final class PhrasesTest {
         Due.is("names", Due.namesOf(x, 0), "1 0 3 - -");
         Due.is("row right", Due.phrases(x, 0, "row 0 right someone,ann lee"), 1);
         Due.is("names from the right", Due.namesOf(x, 0), "1 - 0 - -");
+        Due.is("whole row right", Due.phrases(x, 0, "row 0 right ann and bob and cy lee,dee fox"), 4);
+        Due.is("names of the whole row", Due.namesOf(x, 0), "2 3 1 0 -");
+        x.undo();
+        Due.is("two phrases", Due.phrases(x, 0, "row 0 left dee fox;row 0 left cy lee"), 2);
+        Due.is("names of two phrases", Due.namesOf(x, 0), "1 2 0 - -");
+        x.undo();
         Due.is("row 1", Due.phrases(x, 0, "row 0001 right ann lee"), 1);
         Due.is("names of row 1", Due.namesOf(x, 0), "1 - - - 0");
         Due.is("someone", Due.phrases(x, 0, "row 0 left someone,someone"), 0);
@@ -67,6 +73,9 @@ public final class PhrasesTest {
         x.flip(0);
         Due.is("at, flipped", Due.phrases(x, 0, "at 999 0 cy lee"), 1);
         Due.is("names, flipped", Due.namesOf(x, 0), "- 2 1 - 0");
+        x.crop(0, 79, 5, 79, 5);
+        Due.is("one person", Due.phrases(x, 0, "at 999 0 dee fox"), 1);
+        Due.is("name of the one", x.nameOf(0, 4), 3);
     }
 
     private static void beside() {

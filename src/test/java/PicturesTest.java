@@ -139,6 +139,7 @@ public final class PicturesTest {
         Due.is("nearest 2", x.nearest(0, 30, 30, 2), 1);
         Due.is("nearest 3", x.nearest(0, 30, 30, 3), 3);
         Due.is("the far corner", x.nearest(1, 999, 999, 1), 1);
+        Due.is("the near corner", x.nearest(1, 0, 0, 0), 1);
         Due.is("the square", x.nearest(1, 0, 999, 0), 0);
         x.flip(0);
         Due.is("nearest, flipped", x.nearest(0, 0, 55, 0), 3);
