@@ -26,8 +26,7 @@ public final class ChangesTest {
     }
 
     private static String frame(CaptionAlbum x, int photo) {
-        return x.frame(photo, 0) + " " + x.frame(photo, 1) + " " + x.frame(photo, 2) + " "
-                + x.frame(photo, 3);
+        return Due.frame(x, photo);
     }
 
     private static void crop() {

@@ -2,6 +2,7 @@
 final class Due {
     private static int wrong = 0;
     private static int asked = 0;
+    private static String sentence = "";
 
     interface Call {
         Object answer();
@@ -10,11 +11,24 @@ final class Due {
     private Due() {
     }
 
+    /** What stands before the faults from now on: the sentence of the document that is tested. */
+    static void setSentence(String words) {
+        sentence = words;
+    }
+
+    static int asked() {
+        return asked;
+    }
+
+    static void fault(String what) {
+        wrong++;
+        System.out.println(sentence + what);
+    }
+
     static void is(String call, Object got, Object want) {
         asked++;
         if (!want.equals(got)) {
-            wrong++;
-            System.out.println(call + " answered " + got + ", due is " + want);
+            fault(call + " answered " + got + ", due is " + want);
         }
     }
 
@@ -139,6 +153,64 @@ final class Due {
         }
         index("writtenByte behind the text", () -> x.writtenByte(length));
         return text.toString();
+    }
+
+    /** All that can be asked without changing anything, but for the input buffer and its errors. */
+    static String everything(CaptionAlbum x) {
+        StringBuilder all = new StringBuilder();
+        all.append(x.photos()).append(" photos, ").append(x.names()).append(" names, ");
+        all.append(x.undoable()).append(" undoable, text ").append(writtenText(x));
+        for (int photo = 0; photo < x.photos(); photo++) {
+            all.append("; photo ").append(photo).append(": ").append(frame(x, photo));
+            all.append(x.isFlipped(photo) ? " flipped" : "").append(", rows ");
+            all.append(rowsOf(x, photo)).append(", names ").append(namesOf(x, photo));
+            for (int person = 0; person < x.people(photo); person++) {
+                all.append(' ').append(x.shownAt(photo, person));
+            }
+        }
+        return all.toString();
+    }
+
+    static String frame(CaptionAlbum x, int photo) {
+        return x.frame(photo, 0) + " " + x.frame(photo, 1) + " " + x.frame(photo, 2) + " "
+                + x.frame(photo, 3);
+    }
+
+    private static String writtenText(CaptionAlbum x) {
+        StringBuilder text = new StringBuilder();
+        try {
+            while (text.length() < 1000) {
+                text.append((char) x.writtenByte(text.length()));
+            }
+        } catch (IndexOutOfBoundsException e) {
+            text.append('.');
+        }
+        return text.toString();
+    }
+
+    static String texts(CaptionAlbum x) {
+        return x.buffered() + " bytes, error " + x.parseError() + " at " + x.errorPosition();
+    }
+
+    /** Two albums answer alike, also when everything is undone and restored; both change then. */
+    static void alike(String after, CaptionAlbum got, CaptionAlbum want) {
+        is("everything after " + after, everything(got), everything(want));
+        while (want.undoable() > 0 && got.undoable() > 0) {
+            is("undo() after " + after, got.undo(), want.undo());
+            is("everything undone after " + after, everything(got), everything(want));
+        }
+        for (int slot = 0; slot < 2; slot++) {
+            is("restore(" + slot + ") after " + after, restored(got, slot), restored(want, slot));
+            is("everything restored after " + after, everything(got), everything(want));
+        }
+    }
+
+    private static String restored(CaptionAlbum x, int slot) {
+        try {
+            return String.valueOf(x.restore(slot));
+        } catch (IllegalStateException e) {
+            return "nothing is saved";
+        }
     }
 
     static void end(String test) {
