@@ -112,7 +112,8 @@ final class Due {
     /** The names of all people of a photo, by their numbers: "0 - 2" if person 1 has none. */
     static String namesOf(CaptionAlbum x, int photo) {
         StringBuilder names = new StringBuilder();
-        for (int person = 0; person < x.people(photo); person++) {
+        int people = x.people(photo);
+        for (int person = 0; person < people; person++) {
             int name = x.nameOf(photo, person);
             names.append(person > 0 ? " " : "").append(name < 0 ? "-" : String.valueOf(name));
         }
@@ -158,14 +159,17 @@ final class Due {
     /** All that can be asked without changing anything, but for the input buffer and its errors. */
     static String everything(CaptionAlbum x) {
         StringBuilder all = new StringBuilder();
-        all.append(x.photos()).append(" photos, ").append(x.names()).append(" names, ");
+        int photos = x.photos();
+        all.append(photos).append(" photos, ").append(x.names()).append(" names, ");
         all.append(x.undoable()).append(" undoable, text ").append(writtenText(x));
-        for (int photo = 0; photo < x.photos(); photo++) {
+        for (int photo = 0; photo < photos; photo++) {
             all.append("; photo ").append(photo).append(": ").append(frame(x, photo));
-            all.append(x.isFlipped(photo) ? " flipped" : "").append(", rows ");
-            all.append(rowsOf(x, photo)).append(", names ").append(namesOf(x, photo));
-            for (int person = 0; person < x.people(photo); person++) {
-                all.append(' ').append(x.shownAt(photo, person));
+            all.append(x.isFlipped(photo) ? " flipped" : "");
+            int people = x.people(photo);
+            for (int person = 0; person < people; person++) {
+                all.append(", at ").append(x.shownAt(photo, person));
+                all.append(" row ").append(x.rowOf(photo, person));
+                all.append(" name ").append(x.nameOf(photo, person));
             }
         }
         return all.toString();

@@ -142,13 +142,31 @@ final class InputSentences {
             Due.alike("load", x, fresh);
             Due.load(x, SMALL);
             Due.is("everything", Due.everything(x), "1 photos, 0 names, 0 undoable, text row 0: "
-                    + "someone.; photo 0: 0 0 9 9, rows , names ");
+                    + "someone.; photo 0: 0 0 9 9");
+            allAnew();
         });
         s.promise(3, "Returns the number of photos.", () -> {
             for (int photos = 1; photos <= 5; photos++) {
                 Due.is("load", loaded("album gap 1" + ";photo 9 9".repeat(photos)), photos + " 0");
             }
         });
+    }
+
+    /** Of five albums, each changed in each way, none leaves anything to the later ones. */
+    private static void allAnew() {
+        CaptionAlbum x = new CaptionAlbum();
+        for (int turn = 0; turn < 5; turn++) {
+            Due.load(x, RICH);
+            Due.is("everything of album " + turn, Due.everything(x), Due.everything(Due.album(RICH)));
+            for (int photo = 0; photo < 2; photo++) {
+                x.addPerson(photo, 1, 1);
+                x.giveName(photo, 0, photo);
+                x.retouch(photo, 0, true);
+                x.retouch(photo, 1, true);
+                x.crop(photo, 2, 2, 7, 7);
+                x.flip(photo);
+            }
+        }
     }
 
     /** An album that was changed in each way, with both slots saved and a text written. */

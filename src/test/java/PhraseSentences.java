@@ -121,10 +121,10 @@ final class PhraseSentences {
             for (String text : texts) {
                 CaptionAlbum x = named();
                 x.save(1);
-                x.write(0);
+                x.write(1);
                 CaptionAlbum y = named();
                 y.save(1);
-                y.write(0);
+                y.write(1);
                 Due.argument("phrases of " + text, () -> Due.phrases(x, 0, text));
                 Due.alike("phrases of " + text, x, y);
             }

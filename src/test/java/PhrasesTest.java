@@ -16,7 +16,8 @@ public final class PhrasesTest {
         beside();
         between();
         several();
-        wrongRowsAndItems();
+        wrongRows();
+        wrongItems();
         wrongAt();
         wrongBesideAndBetween();
         thirteenFirsts();
@@ -117,7 +118,7 @@ public final class PhrasesTest {
         Due.is("buffered()", x.buffered(), 0);
     }
 
-    private static void wrongRowsAndItems() {
+    private static void wrongRows() {
         CaptionAlbum x = Due.album(LINE);
         Due.phrasesFail(x, 0, "", 1, 0);
         Due.phrasesFail(x, 0, "   ", 1, 3);
@@ -134,6 +135,10 @@ public final class PhrasesTest {
         Due.phrasesFail(x, 0, "row 0 left ann and someone", 1, 19);
         Due.phrasesFail(x, 0, "row 0 left ann,", 1, 14);
         Due.phrasesFail(x, 0, "row 0 left ann and and", 1, 19);
+    }
+
+    private static void wrongItems() {
+        CaptionAlbum x = Due.album(LINE);
         Due.phrasesFail(x, 0, "row 0 left ann lee and", 1, 19);
         Due.phrasesFail(x, 0, "row 0 left ann lee bob", 1, 19);
         Due.phrasesFail(x, 0, "row 0 left ann lee,", 1, 19);
