@@ -346,6 +346,12 @@ final class NameSentences {
             Due.is("none", x.inversions(0, 1), 0);
             x.flip(1);
             Due.is("all 66", x.inversions(0, 1), 66);
+            x.retouch(1, 0, true);
+            Due.is("the last one is away", x.inversions(0, 1), 55);
+            x.retouch(1, 0, false);
+            x.giveName(0, 0, 15);
+            Due.is("a name that is only in one", x.inversions(0, 1), 55);
+            Due.is("the other way", x.inversions(1, 0), 55);
             x.flip(0);
             Due.is("none again", x.inversions(0, 1), 0);
         });
