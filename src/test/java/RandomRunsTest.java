@@ -152,24 +152,38 @@ public final class RandomRunsTest {
     }
 
     private String albumText(boolean small) {
-        StringBuilder text = new StringBuilder("album gap " + random.nextInt(small ? 4 : 30));
+        boolean large = !small && random.nextInt(3) == 0;
+        int width = small ? 12 : large ? lengthOfSide(999) : 100;
+        int height = small ? 9 : large ? lengthOfSide(999) : 90;
+        StringBuilder text = new StringBuilder("album gap ");
+        text.append(random.nextInt(small ? 4 : large ? 100 : 30));
         int photos = 0;
         int lines = random.nextInt(45);
         for (int i = 0; i < lines; i++) {
             int kind = random.nextInt(10);
             if (photos == 0 || kind == 0 && (photos < 5 || random.nextInt(9) == 0)) {
                 photos++;
-                text.append(small ? ";photo 12 9" : ";photo 100 90");
+                text.append(";photo ").append(width).append(' ').append(height);
             } else if (kind < 4) {
                 text.append(";name ").append(first()).append(' ').append(last());
             } else {
                 text.append(";person ").append(random.nextInt(photos));
-                text.append(' ').append(random.nextInt(small ? 12 : 100));
-                text.append(' ').append(random.nextInt(small ? 9 : 90));
+                text.append(' ').append(position(width)).append(' ').append(position(height));
             }
         }
         String told = withoutDoubles(text.toString());
         return random.nextBoolean() ? told : spoiled(told);
+    }
+
+    /** A width or height: the greatest as often as the others together, and the smallest too. */
+    private int lengthOfSide(int greatest) {
+        return random.nextBoolean() ? greatest : random.nextInt(4) == 0 ? 1
+                : 1 + random.nextInt(greatest);
+    }
+
+    private int position(int side) {
+        int kind = random.nextInt(12);
+        return kind == 0 ? 0 : kind == 1 ? side - 1 : random.nextInt(side);
     }
 
     /** Without the names that an earlier line has told, but for a few. */
@@ -191,8 +205,8 @@ public final class RandomRunsTest {
             switch (random.nextInt(5)) {
                 case 0 -> text.append("row ").append(random.nextInt(3)).append(side()).append(items());
                 case 1 -> text.append("all").append(side()).append(items());
-                case 2 -> text.append("at ").append(random.nextInt(90)).append(' ')
-                        .append(random.nextInt(90)).append(' ').append(full());
+                case 2 -> text.append("at ").append(random.nextInt(i == 0 ? 90 : 1000)).append(' ')
+                        .append(random.nextInt(i == 0 ? 90 : 1000)).append(' ').append(full());
                 case 3 -> text.append("beside ").append(full()).append(side()).append(full());
                 default -> text.append("between ").append(full()).append(' ').append(full())
                         .append(' ').append(full());
@@ -203,7 +217,7 @@ public final class RandomRunsTest {
 
     private String items() {
         StringBuilder text = new StringBuilder();
-        int items = 1 + random.nextInt(3);
+        int items = 1 + random.nextInt(random.nextInt(6) == 0 ? 13 : 3);
         for (int i = 0; i < items; i++) {
             text.append(i > 0 ? ", " : "");
             if (random.nextInt(4) == 0) {
